@@ -42,7 +42,7 @@ public final class TextTest {
     }
 
     /** The fault of a text as a template; define() and its STATE must agree with it. */
-    private static void fault(String text, int want) {
+    static void fault(String text, int want) {
         StructureEditor x = new StructureEditor();
         Due.text(x, text);
         Due.due("templateFault of '" + text + "'", x.templateFault(), want);
@@ -209,7 +209,7 @@ public final class TextTest {
         Due.due("define(3) of a faulty text", x.define(3), STATE);
     }
 
-    private static void patternFault(String text, int want) {
+    static void patternFault(String text, int want) {
         StructureEditor x = new StructureEditor();
         Due.text(x, text);
         Due.due("patternFault of '" + text + "'", x.patternFault(), want);
