@@ -26,6 +26,8 @@ public final class CheckBoundsTest {
         beginningOfTheTurn();
         overlaysThatDisagree();
         brokenLayoutsAreUpdated();
+        onlyPresentOverlaysAreUpdated();
+        sixtyChecks();
         repairOfNone();
         repairOfNoWrongCheck();
         repairWithinSixteen();
@@ -123,6 +125,11 @@ public final class CheckBoundsTest {
         expected(128, 128, 0x7078, 128);
         expected(0, 510, 0, 255, 255);
         expected(255, 255, 0x1ef0, 255, 0);
+        // the register is 32768, 32767 and 32769 before a doubling
+        expected(128, 382, 37256, 255, 127);
+        expected(64, 446, 18628, 255, 191);
+        expected(61, 65, 36631, 50, 15);
+        expected(163, 331, 16524, 84, 247);
         expected(0x31, 477, 0x29b1, '1', '2', '3', '4', '5', '6', '7', '8', '9');
     }
 
@@ -135,6 +142,9 @@ public final class CheckBoundsTest {
                 boolean isGreat = register >= 32768;
                 register = register * 2 % 65536;
                 register = isGreat ? register ^ 4129 : register;
+            }
+            if (value % 100 == 99) {
+                x = checked(0);
             }
             x.overwrite(0, value);
             Due.due("c of the byte " + value, x.expected(0, 2), register);
@@ -423,6 +433,42 @@ public final class CheckBoundsTest {
         Due.buffer("after refresh", x, 5, 5, 0, 0, 10);
     }
 
+    /** "the present overlays are gone through": checks of one that is removed or replaced are not updated. */
+    private static void onlyPresentOverlaysAreUpdated() {
+        StructureEditor x = new StructureEditor();
+        Due.bytes(x, 5, 5, 5, 5);
+        Due.define(x, 0, "a:u1;k:x(a,a);", 2);
+        Due.define(x, 1, "a:u1;", 1);
+        x.follow(true);
+        x.lay(0, 0, 0);
+        x.lay(1, 1, 0);
+        Due.due("remove(0)", x.remove(0), 0);
+        Due.due("overwrite(0,9)", x.overwrite(0, 9), 5);
+        Due.buffer("after it", x, 9, 5, 5, 5);
+        Due.due("lay(2,0,1)", x.lay(2, 0, 1), 2);
+        Due.due("lay(2,1,1)", x.lay(2, 1, 1), 1);
+        Due.due("overwrite(1,8)", x.overwrite(1, 8), 5);
+        Due.buffer("after it", x, 9, 8, 5, 5);
+        Due.due("refresh", x.refresh(), 0);
+        Due.due("count(1)", x.count(1), 0);
+    }
+
+    /** All checks of a list of 60 are updated, the last one, too. */
+    private static void sixtyChecks() {
+        StructureEditor x = new StructureEditor();
+        x.insert(0, 1, 64);
+        x.insert(64, 7, 1);
+        Due.define(x, 0, "s:{e:{};k:x(e,e);}*61;", 3);
+        Due.due("lay", x.lay(3, 0, 2), 60);
+        Due.due("60 wrong checks", x.overlay(3, 5), 60);
+        Due.due("refresh", x.refresh(), 1);
+        Due.due("no wrong check", x.count(1), 0);
+        Due.due("before the first", x.byteAt(1), 1);
+        Due.due("the first", x.byteAt(2), 0);
+        Due.due("the last", x.byteAt(61), 0);
+        Due.due("behind the last", x.byteAt(62), 1);
+    }
+
     /** repair(): "BAD if there is no such field". */
     private static void repairOfNone() {
         for (int overlay : new int[] {-1, 1, 2, 4, MIN, MAX}) {
@@ -565,6 +611,7 @@ public final class CheckBoundsTest {
             x.overwrite(2 + at, 255 - right);
             Due.due("the byte " + at, x.repair(0, 0), at < 16 ? 256 * (2 + at) + right : NONE);
         }
+        repairOfCAmongZeros();
         StructureEditor x = checked(0);
         x.setField(0, 2, 0xff00);
         Due.due("c of the byte 255", x.repair(0, 2), 255);
@@ -573,6 +620,21 @@ public final class CheckBoundsTest {
         x.overwrite(0, 255);
         x.setField(0, 2, 0xe1f0);
         Due.due("c of the byte 0", x.repair(0, 2), 0);
+    }
+
+    /** Bytes of 0 count, too; and a check that no byte can make right has no repair. */
+    private static void repairOfCAmongZeros() {
+        for (int at = 0; at < 18; at++) {
+            StructureEditor x = checked(new int[18]);
+            x.refresh();
+            x.overwrite(at, 255);
+            Due.due("the byte " + at + " among zeros", x.repair(0, 2), at < 16 ? 256 * at : NONE);
+            x.undo();
+            x.overwrite(at, 1);
+            x.setField(0, 2, x.expected(0, 2));
+            x.overwrite(at, 0);
+            Due.due("the byte " + at + " is to be 1", x.repair(0, 2), at < 16 ? 256 * at + 1 : NONE);
+        }
     }
 
     /** "of several the one with the least position". */

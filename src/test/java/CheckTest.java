@@ -289,17 +289,41 @@ public final class CheckTest {
         if (x.overlay(0, 5) == 0) {
             return STATE;
         }
-        int end = Math.min(x.field(0, 0, 5), x.field(0, 0, 4) + 16);
-        for (int at = x.field(0, 0, 4); at < end; at++) {
+        int kind = x.field(0, 0, 2);
+        int start = x.field(0, 0, 4);
+        int[] range = new int[x.field(0, 0, 5) - start];
+        for (int i = 0; i < range.length; i++) {
+            range[i] = x.byteAt(start + i);
+        }
+        Due.due("expected as the trial computes it", x.expected(0, 0), check(kind, range));
+        for (int i = 0; i < Math.min(range.length, 16); i++) {
+            int had = range[i];
             for (int number = 0; number < 256; number++) {
-                x.overwrite(at, number);
-                int expected = x.expected(0, 0);
-                x.undo();
-                if (expected == value) {
-                    return 256 * at + number;
+                range[i] = number;
+                if (check(kind, range) == value) {
+                    return 256 * (start + i) + number;
+                }
+            }
+            range[i] = had;
+        }
+        return NONE;
+    }
+
+    /** The expected value of a check of the kind 2 (x), 3 (s) or 4 (c). */
+    private static int check(int kind, int[] range) {
+        int result = kind == 4 ? 65535 : 0;
+        for (int number : range) {
+            if (kind == 2) {
+                result ^= number;
+            } else if (kind == 3) {
+                result = (result + number) % 65536;
+            } else {
+                result ^= 256 * number;
+                for (int i = 0; i < 8; i++) {
+                    result = result >= 32768 ? (2 * result % 65536) ^ 4129 : 2 * result;
                 }
             }
         }
-        return NONE;
+        return result;
     }
 }

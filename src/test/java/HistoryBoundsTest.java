@@ -264,8 +264,10 @@ public final class HistoryBoundsTest {
         StructureEditor x = new StructureEditor();
         Due.due("mark of an empty buffer", x.mark(), 0);
         x.insert(0, 1, 3);
+        Due.due("distance() from nothing", x.distance(), 3);
         Due.due("mark", x.mark(), 3);
         x.delete(0, 3);
+        Due.due("distance() to nothing", x.distance(), 3);
         Due.due("mark of an empty buffer again", x.mark(), 0);
         Due.due("count(5)", x.count(5), 0);
         Due.due("difference(0)", x.difference(0), NONE);

@@ -342,6 +342,17 @@ public final class OverlayBoundsTest {
         Due.due("fieldAt(3,5)", y.fieldAt(3, 5), 0);
         Due.due("fieldAt(3,8)", y.fieldAt(3, 8), 1);
         Due.due("fieldAt(3,9)", y.fieldAt(3, 9), NONE);
+        // a field that another overlay has is none of this one
+        Due.due("fieldAt(0,2)", y.fieldAt(0, 2), 2);
+        Due.due("fieldAt(3,2)", y.fieldAt(3, 2), NONE);
+        StructureEditor z = new StructureEditor();
+        z.insert(0, 0, 64);
+        Due.define(z, 0, "a:u1*61;", 1);
+        Due.due("lay", z.lay(0, 0, 2), 60);
+        Due.due("the first of 60 fields", z.fieldAt(0, 2), 0);
+        Due.due("the last of 60 fields", z.fieldAt(0, 61), 59);
+        Due.due("before 60 fields", z.fieldAt(0, 1), NONE);
+        Due.due("behind 60 fields", z.fieldAt(0, 62), NONE);
     }
 
     /** counterpart(): "BAD if there is no such field, or the other overlay is not present". */
@@ -380,6 +391,39 @@ public final class OverlayBoundsTest {
         counterparts(x, 2, 2, 0, 1, 2, 3, 4);
         x.lay(3, 3, 0);
         counterparts(x, 0, 3, NONE, NONE, NONE, NONE, NONE);
+        longestPaths();
+        sixtyCounterparts();
+    }
+
+    /** Paths of four names, which differ in one of them or in one index. */
+    private static void longestPaths() {
+        StructureEditor x = new StructureEditor();
+        x.insert(0, 0, 40);
+        Due.define(x, 0, "a:{b:{c:{d:u1;e:u1;};};};", 5);
+        Due.define(x, 1, "a:{b:{c:{e:u1;f:u1;d:u1*2;};g:{d:u1;};};};", 8);
+        Due.define(x, 2, "a:{b:{c:{d:u1;}*2;}*2;}*2;", 4);
+        Due.due("lay(0)", x.lay(0, 0, 0), 2);
+        Due.due("lay(1)", x.lay(1, 1, 0), 5);
+        Due.due("lay(2)", x.lay(2, 2, 0), 8);
+        counterparts(x, 0, 1, 2, 0);
+        counterparts(x, 1, 0, 1, NONE, 0, NONE, NONE);
+        counterparts(x, 0, 2, 0, NONE);
+        counterparts(x, 2, 0, 0, NONE, NONE, NONE, NONE, NONE, NONE, NONE);
+        counterparts(x, 2, 2, 0, 1, 2, 3, 4, 5, 6, 7);
+    }
+
+    private static void sixtyCounterparts() {
+        StructureEditor x = new StructureEditor();
+        x.insert(0, 0, 64);
+        Due.define(x, 0, "a:u1*60;", 1);
+        Due.define(x, 1, "b:u1;a:u1*60;", 2);
+        Due.due("lay(0)", x.lay(0, 0, 0), 60);
+        Due.due("lay(1)", x.lay(1, 1, 0), 60);
+        Due.due("the first of 60", x.counterpart(0, 0, 1), 1);
+        Due.due("the last of 60", x.counterpart(0, 58, 1), 59);
+        Due.due("none of 60", x.counterpart(0, 59, 1), NONE);
+        Due.due("none of 60", x.counterpart(1, 0, 0), NONE);
+        Due.due("the last of 60", x.counterpart(1, 59, 0), 58);
     }
 
     private static void counterparts(StructureEditor x, int overlay, int other, int... want) {

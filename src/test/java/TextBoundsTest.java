@@ -31,6 +31,7 @@ public final class TextBoundsTest {
         secondBeforeFirst();
         alignmentOfZero();
         emptyTemplates();
+        oneTextAfterAnother();
         templateNumbers();
         defineRefused();
         patternPairs();
@@ -104,6 +105,16 @@ public final class TextBoundsTest {
                 want = letter == ';' && !isNested ? NONE : text.length();
             }
             Due.due("byte " + (int) letter + " behind '" + beginning + "'", with(text).templateFault(), want);
+            if (want == beginning.length()) {
+                firstOfTwo(text, want);
+            }
+        }
+    }
+
+    /** Whatever follows the first byte that cannot stand at its place, a second fault is not told. */
+    private static void firstOfTwo(String text, int want) {
+        for (String more : new String[] {";!", "!", ";b:u1;", "a:u1;)"}) {
+            Due.due("the first fault of '" + text + more + "'", with(text + more).templateFault(), want);
         }
     }
 
@@ -475,6 +486,49 @@ public final class TextBoundsTest {
         Due.define(y, 0, "a:{};", 1);
         Due.define(y, 0, "   ", 0);
         Due.due("items(0) of blanks", y.items(0), 0);
+    }
+
+    private static final String[] TEXTS = {"", "a:u1;b:u2<;c:i4<*3;d:u1;", ".1;.2;@3;a:u1;", "a:{b:{c:{d:u2<*2;};};}*2;",
+        "a:u1;b:x(a,a);c:s(a,b);d:c(b,c);", "e:{};f:{};g:c(e,f);h:u2;", "a:u1;?a=0b:u2<;?a=1c:u1;?b=0d:u1*a;",
+        "a:u1*2;b:u1*0;c:{}*9;d:u1;", "a:u2<;b:u2;c:i1;d:i2<;e:i4;", "a:u1;a", "a:u1;b:u1*", "a:{b:{c:{d:u1<*2;",
+        ".1;.1;a:x(b,b);"};
+
+    /** A template is what its text says, whatever text was read before it, with a fault or without. */
+    private static void oneTextAfterAnother() {
+        for (String first : TEXTS) {
+            for (String second : TEXTS) {
+                StructureEditor fresh = new StructureEditor();
+                StructureEditor used = new StructureEditor();
+                for (int template = 0; template < 4; template++) {
+                    Due.text(used, first);
+                    used.templateFault();
+                    used.define(template);
+                    Due.text(used, first);
+                    used.templateFault();
+                    used.define(template);
+                }
+                for (int template = 0; template < 4; template++) {
+                    Due.define(used, template, "", 0);
+                }
+                for (int template = 0; template < 4; template++) {
+                    sameTemplate("'" + second + "' after '" + first + "'", used, fresh, template, second);
+                }
+            }
+        }
+    }
+
+    private static void sameTemplate(String name, StructureEditor used, StructureEditor fresh, int template, String text) {
+        Due.text(used, text);
+        Due.text(fresh, text);
+        int fault = fresh.templateFault();
+        Due.due("fault of " + name, used.templateFault(), fault);
+        Due.due("define of " + name, used.define(template), fresh.define(template));
+        if (template == 0) {
+            used.insert(0, 1, 30);
+            fresh.insert(0, 1, 30);
+        }
+        Due.due("lay of " + name, used.lay(template, template, 0), fresh.lay(template, template, 0));
+        Due.due("digest of " + name, used.digest(), fresh.digest());
     }
 
     /** "template: the template, 0 to 3", of define() and items(). */
