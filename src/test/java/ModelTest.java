@@ -4,8 +4,9 @@ import java.util.Random;
 
 /** Compares the class with the model, call by call, in random runs that are the same each time. */
 public final class ModelTest {
-    private static final int RUNS = 1500;
-    private static final int CALLS = 200;
+    private static final int RUNS = 3000;
+    /** An object is used for at most 512 calls; no step of a run takes more than so many. */
+    private static final int MOST_CALLS = 512, MOST_OF_A_STEP = 130;
     private static final int TEXTS = 60000;
 
     private static final String[] TEMPLATES = {
@@ -20,9 +21,11 @@ public final class ModelTest {
     private static final String DIGITS = "0123456789abcdef???? ";
 
     private final Random random;
-    private final StructureEditor x = new StructureEditor();
-    private final Model y = new Model();
     private final List<String> calls = new ArrayList<>();
+    private StructureEditor x = new StructureEditor();
+    private Model y = new Model();
+    /** How many calls x has had. */
+    private int used;
 
     private ModelTest(long seed) {
         random = new Random(seed);
@@ -44,16 +47,18 @@ public final class ModelTest {
 
     private boolean run() {
         boolean right = random.nextInt(10) == 0 || prepare();
-        for (int n = 0; n < CALLS; n++) {
-            right = right && call();
-            if (!right) {
-                for (String call : calls) {
-                    System.out.println(call);
-                }
-                return false;
-            }
+        while (right && hasStepLeft()) {
+            right = call();
         }
-        return same("digest()", x.digest(), y.digest());
+        right = right && same("digest()", x.digest(), y.digest());
+        if (!right) {
+            calls.forEach(System.out::println);
+        }
+        return right;
+    }
+
+    private boolean hasStepLeft() {
+        return used + MOST_OF_A_STEP < MOST_CALLS;
     }
 
     /** Bytes, templates and overlays to begin with, as overlays with fields would be rare otherwise. */
@@ -62,7 +67,7 @@ public final class ModelTest {
         for (int n = 10 + random.nextInt(30); n > 0; n--) {
             right = right && changeBytes(0);
         }
-        for (int n = 0; n < 4; n++) {
+        for (int n = 0; n < 4 && hasStepLeft(); n++) {
             right = right && define(n, random.nextInt(3) > 0 ? known() : wellGrown());
             right = right && lay(n, random.nextInt(4), random.nextInt(Math.min(y.length(), 12) + 1));
         }
@@ -81,6 +86,7 @@ public final class ModelTest {
     }
 
     private boolean same(String call, long got, long want) {
+        used++;
         calls.add(call + " = " + got + (got == want ? "" : ", the model says " + want));
         return got == want;
     }
@@ -88,6 +94,11 @@ public final class ModelTest {
     /** Texts alone, and far more of them, as their faults have the most cases. */
     private boolean faults(int texts) {
         for (int n = 0; n < texts; n++) {
+            if (!hasStepLeft()) {
+                x = new StructureEditor();
+                y = new Model();
+                used = 0;
+            }
             type(random.nextInt(5) == 0 ? pattern() : mutated(random.nextBoolean() ? grown() : known()));
             String text = y.text;
             if (!same("templateFault()", x.templateFault(), y.templateFault())
@@ -111,6 +122,7 @@ public final class ModelTest {
             x.type(text.charAt(i));
             y.type(text.charAt(i));
         }
+        used += 1 + Math.min(text.length(), 120);
         calls.add("text '" + text + "'");
     }
 
