@@ -79,6 +79,8 @@ public final class CheckTest {
         Due.due("setField of the check", x.setField(0, 1, 99), 2);
         Due.due("it gets its expected value at once", x.value(0, 1), 5);
         Due.due("setField of the check", x.setField(0, 1, 65536), RANGE);
+        Due.due("overwrite of a byte of the check: the previous byte", x.overwrite(3, 77), 5);
+        Due.buffer("after overwrite of the check", x, 2, 3, 0, 5, 0, 0, 0, 0);
         Due.due("insert", x.insert(1, 9, 1), 9);
         Due.buffer("after insert", x, 2, 9, 0, 11, 5, 0, 0, 0, 0);
         Due.due("delete", x.delete(0, 1), 8);

@@ -62,7 +62,9 @@ public final class FaceTest {
         }
         int constants = 0;
         for (Field field : face.getDeclaredFields()) {
-            constants += Modifier.isPrivate(field.getModifiers()) ? 0 : 1;
+            boolean isOpen = !Modifier.isPrivate(field.getModifiers());
+            constants += isOpen ? 1 : 0;
+            Due.due("an open field that is not public: " + field, isOpen && !Modifier.isPublic(field.getModifiers()) ? 1 : 0, 0);
             boolean state = Modifier.isStatic(field.getModifiers()) && !Modifier.isFinal(field.getModifiers());
             Due.due("static state: " + field, state ? 1 : 0, 0);
         }
@@ -70,16 +72,46 @@ public final class FaceTest {
         Constructor<?>[] constructors = face.getDeclaredConstructors();
         Due.due("constructors", constructors.length, 1);
         Due.due("parameters of the constructor", constructors[0].getParameterCount(), 0);
+        Due.due("the constructor is public", constructors[0].getModifiers(), Modifier.PUBLIC);
         for (Class<?> inside : face.getDeclaredClasses()) {
             Due.due("a static class: " + inside, Modifier.isStatic(inside.getModifiers()) ? 1 : 0, 1);
         }
         Due.due("at most twelve classes", face.getDeclaredClasses().length <= 11 ? 1 : 0, 1);
+        for (Method method : face.getDeclaredMethods()) {
+            parameters(method);
+        }
+        for (Class<?> inside : face.getDeclaredClasses()) {
+            inside(inside, names);
+        }
         long[] values = {StructureEditor.BAD, StructureEditor.STATE, StructureEditor.FULL, StructureEditor.RANGE,
             StructureEditor.UNSTABLE, StructureEditor.NONE};
         long[] want = {-1001, -1002, -1003, -1004, -1005, -1009};
         for (int i = 0; i < want.length; i++) {
             Due.due("constant " + i, values[i], want[i]);
         }
+    }
+
+    /** LANGUAGE.md, rule 11: "A method takes at most seven parameters." */
+    private static void parameters(Method method) {
+        Due.due("parameters of " + method, method.getParameterCount() <= 7 ? 1 : 0, 1);
+    }
+
+    /** Rules 1, 2, 5 and 11, of a class inside. */
+    private static void inside(Class<?> inside, TreeSet<String> names) {
+        Due.due("a closed class: " + inside, Modifier.isPublic(inside.getModifiers())
+                || Modifier.isProtected(inside.getModifiers()) ? 1 : 0, 0);
+        Due.due("no class inside of " + inside, inside.getDeclaredClasses().length, 0);
+        for (Method method : inside.getDeclaredMethods()) {
+            parameters(method);
+            Due.due("method with a public name: " + method, names.contains(method.getName()) ? 1 : 0, 0);
+        }
+        int fields = 0;
+        for (Field field : inside.getDeclaredFields()) {
+            boolean isStatic = Modifier.isStatic(field.getModifiers());
+            fields += isStatic ? 0 : 1;
+            Due.due("static state: " + field, isStatic && !Modifier.isFinal(field.getModifiers()) ? 1 : 0, 0);
+        }
+        Due.due("fields of " + inside, fields <= 20 ? 1 : 0, 1);
     }
 
     private static void source() throws IOException {

@@ -253,6 +253,14 @@ public final class LayoutBoundsTest {
         // the outer name stays the same for all repetitions
         x = laid("n:u1;s:{d:u1*n;}*2;", 2, 1, 1, 1, 1);
         layout("an outer count", x, 5, 0, 5);
+        // the name of an outer structure's item means that of its present repetition
+        x = laid("s:{n:u1;t:{d:u1*n;e:u1;}*2;}*3;f:u1;", 1, 10, 11, 12, 13, 0, 14, 15, 2, 16, 17, 18, 19, 20, 21, 22);
+        starts("an outer count of each repetition", x, 0, 1, 2, 3, 4, 5, 6, 7, 8, 9, 10, 11, 12, 13, 14, 15);
+        Due.due("the last e", x.path(0, 14, 2), 'e');
+        Due.due("f", x.path(0, 15, 0), 'f');
+        x = laid("s:{n:u1;t:{?n=1d:u1;}*2;}*3;", 1, 10, 11, 0, 1, 12, 13);
+        starts("an outer condition of each repetition", x, 0, 1, 2, 3, 4, 5, 6);
+        layout("an outer condition of each repetition", x, 7, 0, 7);
     }
 
     private static void range(StructureEditor x, int i, int start, int end) {
@@ -270,6 +278,11 @@ public final class LayoutBoundsTest {
         range(x, 2, 1, 2);
         range(x, 4, 4, 4);
         Due.due("the range of the absent one is empty", x.expected(0, 4), 0);
+        // structures in structures: the range is that of the inner one's latest going through
+        x = over(20, "s:{.1;t:{a:u1;}*2;k:x(t,t);}*2;l:x(s,s);");
+        range(x, 2, 1, 3);
+        range(x, 5, 5, 7);
+        range(x, 6, 0, 8);
     }
 
     /**
@@ -288,6 +301,12 @@ public final class LayoutBoundsTest {
         Due.due("expected of an empty range", x.expected(0, 2), 65535);
         x = laid("a:u1;.2;?a=9s:{b:u1;};@4;k:x(s,s);", 1, 2, 3, 4, 5);
         range(x, 1, 3, 3);
+        // also where an inner block refers to it, and where it stood in the repetition before
+        x = laid("a:u1;?a=9b:u1;s:{?b=0c:u1;d:u1*b;};f:u1;", 1, 7, 8);
+        starts("the value 0 for an inner block", x, 0, 1, 2);
+        Due.due("c is there", x.path(0, 1, 1), 'c');
+        x = laid("s:{n:u1;?n=1b:u1;t:{d:u1*b;};}*3;", 1, 2, 9, 9, 0, 1, 1, 9);
+        starts("the value 0 of the second repetition", x, 0, 1, 2, 3, 4, 5, 6, 7);
         // an absent check has an empty range for others, too
         x = laid("a:u1;?a=9b:x(a,a);k:x(b,b);l:x(a,b);", 1, 2, 3);
         range(x, 1, 1, 1);

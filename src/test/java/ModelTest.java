@@ -17,6 +17,9 @@ public final class ModelTest {
         "a:u1;s:{a:u1;b:u1*a;};c:u1*a;k:c(a,c);", "a:{b:{c:{d:u1;}*2;}*2;}*2;k:s(a,a);", ".1;a:u1;k:x(a,a);",
         "n:u1;?n=0a:{b:u1;};k:x(a,a);c:i1;", "", "a:u1;k:x(a,a);l:x(a,k);m:x(k,l);"
     };
+    /** Arguments far out of range: no call may throw, for any of them. */
+    private static final int[] WILD = {Integer.MIN_VALUE, Integer.MIN_VALUE + 1, -1000, -256, -2, 256, 1000, 65536,
+        Integer.MAX_VALUE - 1, Integer.MAX_VALUE};
     private static final String LETTERS = "abcnuisxc124?:;.@{}*<=(), 05";
     private static final String DIGITS = "0123456789abcdef???? ";
 
@@ -210,6 +213,9 @@ public final class ModelTest {
     }
 
     private int number(int most) {
+        if (random.nextInt(80) == 0) {
+            return WILD[random.nextInt(WILD.length)];
+        }
         return random.nextInt(20) == 0 ? random.nextInt(3) - 1 + (random.nextBoolean() ? most : 0) : random.nextInt(most + 1);
     }
 

@@ -33,6 +33,9 @@ public final class OverlayBoundsTest {
         setFieldWrapsNot();
         setFieldOfChecks();
         setFieldCounts();
+        layAnswersBehindTheUpdate();
+        setFieldAnswersBehindTheUpdate();
+        brokenOverlays();
         Due.finish();
     }
 
@@ -551,5 +554,72 @@ public final class OverlayBoundsTest {
         Due.due("fields of overlay 0", x.overlay(0, 2), 2);
         Due.due("setField(0,1,255)", x.setField(0, 1, 255), 2);
         Due.due("setField(0,2,255)", x.setField(0, 2, 255), BAD);
+    }
+
+    /**
+     * Overlay 0 makes byte 2 a copy of byte 1; template 1 has its count there. With following the copy is not yet
+     * made, so that the next change makes it: the count is 0 before and 3 after the update.
+     */
+    private static StructureEditor withACountToCome() {
+        StructureEditor x = new StructureEditor();
+        Due.bytes(x, 9, 3, 0, 7, 7, 7, 7);
+        Due.define(x, 0, "a:u1;k:x(a,a);", 2);
+        Due.define(x, 1, "n:u1;d:u1*n;", 2);
+        Due.define(x, 2, "z:u1;n:u1;m:u1;d:u1*m;", 4);
+        Due.due("lay", x.lay(0, 0, 1), 2);
+        x.follow(true);
+        return x;
+    }
+
+    /** lay(): "Returns the number of fields of its layout", which the update at the end of the change is a part of. */
+    private static void layAnswersBehindTheUpdate() {
+        StructureEditor x = withACountToCome();
+        Due.due("lay(1,1,2)", x.lay(1, 1, 2), 4);
+        Due.due("the count", x.value(1, 0), 3);
+        x = withACountToCome();
+        Due.due("lay(0,1,2): no check is left", x.lay(0, 1, 2), 1);
+        // the check that the overlay itself brings
+        x = withACountToCome();
+        x.follow(false);
+        x.remove(0);
+        Due.due("lay(1,1,2)", x.lay(1, 1, 2), 1);
+        x.follow(true);
+        Due.due("lay(2,0,1)", x.lay(2, 0, 1), 2);
+        Due.due("fields of the other overlay", x.overlay(1, 2), 4);
+    }
+
+    /** setField(): "Returns the number of fields of the layout of this overlay then": behind the update, too. */
+    private static void setFieldAnswersBehindTheUpdate() {
+        StructureEditor x = withACountToCome();
+        x.follow(false);
+        Due.due("lay(1,2,0)", x.lay(1, 2, 0), 3);
+        x.follow(true);
+        Due.due("setField(1,1,2): the count becomes 2", x.setField(1, 1, 2), 5);
+        Due.due("setField(1,1,4): the count becomes 4", x.setField(1, 1, 4), 7);
+        Due.due("setField(1,2,0): the count is 4 again", x.setField(1, 2, 0), 7);
+        Due.due("setField(1,1,0): the count becomes 0", x.setField(1, 1, 0), 3);
+        Due.due("setField(0,0,1): of the other overlay", x.setField(0, 0, 1), 2);
+        Due.due("the count", x.value(1, 2), 1);
+    }
+
+    /** "What was laid before stays in the list.": all questions about fields answer for it, none for what is behind. */
+    private static void brokenOverlays() {
+        StructureEditor x = new StructureEditor();
+        Due.bytes(x, 4, 9, 8);
+        Due.define(x, 0, "a:u1;k:x(a,a);s:{b:u1;c:u4;};l:x(a,a);", 6);
+        Due.define(x, 1, "k:u1;s:{c:u1;b:u1;};", 4);
+        Due.due("lay(0,0,0)", x.lay(0, 0, 0), 3);
+        Due.due("lay(1,1,0)", x.lay(1, 1, 0), 3);
+        Due.due("broken", x.overlay(0, 3), 1);
+        Due.due("expected(0,1)", x.expected(0, 1), 4);
+        Due.due("expected(0,3)", x.expected(0, 3), BAD);
+        Due.due("repair(0,1)", x.repair(0, 1), 9);
+        Due.due("repair(0,3)", x.repair(0, 3), BAD);
+        Due.due("overlay(0,5)", x.overlay(0, 5), 1);
+        Due.due("count(1)", x.count(1), 1);
+        counterparts(x, 0, 1, NONE, 0, 2);
+        counterparts(x, 1, 0, 1, NONE, 2);
+        Due.due("lay(2,0,0)", x.lay(2, 0, 0), 3);
+        Due.due("count(1) of two broken overlays", x.count(1), 2);
     }
 }
